@@ -547,6 +547,10 @@ public final class PromisesTest {
         due("come(600, 1)", x.come(600, 1), FULL);
         due("come(599, 1)", x.come(599, 1), NO);
         due("come(599, 0)", x.come(599, 0), BAD);
+        WaxShow y = new WaxShow();
+        due("come(8, 1), the first", y.come(8, 1), 1);
+        due("come(7, 1), ahead of the first", y.come(7, 1), NO);
+        due("come(8, 20)", y.come(8, 20), 21);
         due("count(2)", x.count(2), 40);
         due("out(39)", x.out(39), 620);
     }
@@ -647,6 +651,15 @@ public final class PromisesTest {
         x.room(0, 0, 3);
         due("most(0), all wait", x.most(0), 0);
         due("most(3), all wait", x.most(3), 9);
+        // one alone, after many that are gone
+        x.empty();
+        x.room(0, 4, 3);
+        x.room(1, 2, 3);
+        x.come(0, 1);
+        for (int room = 0; room < 3; room++) {
+            due("most(" + room + ") of one", x.most(room), 1);
+        }
+        due("most(3) of one", x.most(3), 0);
         // one that leaves as another one comes is not there with it at the end of the minute
         WaxShow y = new WaxShow();
         y.come(0, 1);
@@ -788,6 +801,14 @@ public final class PromisesTest {
         due("tell(0, 108, 208, 308)", x.tell(0, 108, 208, 308), 0);
         // each number stands for its own measure
         due("tell(300, 200, 100, 0)", x.tell(300, 200, 100, 0), 0);
+        // one measure that does not agree is enough, whichever it is
+        for (int m = 0; m < 4; m++) {
+            WaxShow y = withFigures(2);
+            y.picture(0, m, 0, 0);
+            due("tell, " + m + " agrees", y.tell(0, 0, 0, 0), 0);
+            y.picture(0, m, 1, 1);
+            due("tell, " + m + " does not agree", y.tell(0, 0, 0, 0), 1);
+        }
         x.picture(0, 2, 900, 900);
         due("tell, 0 is left out", x.tell(0, 100, 200, 300), 1);
         x.picture(1, 3, 900, 900);
