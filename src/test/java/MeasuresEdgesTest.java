@@ -311,6 +311,14 @@ public final class MeasuresEdgesTest {
         }
         allOfFifty().tells(0, "made", 0);
         withDays(new int[] {1, 2, 3, 4}).tells(0, "made", 0);
+        Show after = withDays(new int[] {1, 2, 3, 4});
+        after.due(10, "made", 1);
+        after.due(0, "made", 0);
+        after.due(10, "made", 1);
+        after.due(1, "days", 0, 0, 1);
+        after.due(0, "made", 0);
+        after.due(NONE, "order", 0, 0);
+        after.due(10, "made", 1);
 
         Show.sentence("13: without days it is over on day 0");
         Show.of(8).tells(0, "made", 255);
@@ -420,6 +428,17 @@ public final class MeasuresEdgesTest {
             Show s = withDays(days);
             for (int i = 0; i < 5; i++) {
                 s.tells(i, "order", 31, i);
+            }
+        }
+
+        Show.sentence("14: of like ones the first by numbers, whichever HAND has the days");
+        for (int hand = 0; hand <= 3; hand++) {
+            Show s = Show.of(4);
+            for (int f = 0; f < 4; f++) {
+                s.due(0, "days", f, hand, 5 + f);
+            }
+            for (int i = 0; i < 4; i++) {
+                s.tells(i, "order", 15, i);
             }
         }
 

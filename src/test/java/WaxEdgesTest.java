@@ -491,6 +491,23 @@ public final class WaxEdgesTest {
         t.tells(1, "known", 0);
         t.tells(1, "known", 1);
 
+        Show.sentence("26: each number to its own MEASURE, and each of the 20 by its own numbers");
+        Show own = Show.of(5);
+        for (int m = 0; m <= 3; m++) {
+            own.due(1, "picture", m, m, 3000, 3000);
+            own.due(2, "picture", m, m, 2990, 3000);
+        }
+        for (int i = 0; i < 20; i++) {
+            int[] row = {i % 4, 1500, 1500, 1500, 1500};
+            row[1 + i / 5] = 3000;
+            own.due(i + 1, "likeness", row);
+        }
+        // of FIGURE 0: 0, 4, 8, 12, 16, of which 0 and 4 are told as its; of 1: 5 and 9; and so on
+        for (int f = 0; f <= 3; f++) {
+            own.tells(2, "known", f);
+        }
+        own.tells(0, "known", 4);
+
         Show.sentence("26: of like ones the least FIGURE is told");
         Show like = withMiddles(new int[] {0, 0, 0, 0}, new int[] {2, 0, 0, 0});
         like.due(1, "likeness", 1, 1, 0, 0, 0);
