@@ -82,11 +82,19 @@ public final class FaceTest {
     private static void insides() {
         due(WaxShow.class.getDeclaredClasses().length <= 11, "some twelve classes at most");
         due(ownFields(WaxShow.class) <= 20, "some twenty fields at most");
+        parameters(WaxShow.class);
         for (Class<?> c : WaxShow.class.getDeclaredClasses()) {
             int modifiers = c.getModifiers();
             due(Modifier.isStatic(modifiers), c + " is static");
             due(!Modifier.isPublic(modifiers) && !Modifier.isProtected(modifiers), c + " is not in the face");
             due(ownFields(c) <= 20, c + " has some twenty fields at most");
+            parameters(c);
+        }
+    }
+
+    private static void parameters(Class<?> c) {
+        for (Method m : c.getDeclaredMethods()) {
+            due(m.getParameterCount() <= 7, m + " takes at most seven parameters");
         }
     }
 
@@ -95,6 +103,7 @@ public final class FaceTest {
         for (Field f : c.getDeclaredFields()) {
             if (Modifier.isStatic(f.getModifiers())) {
                 due(Modifier.isFinal(f.getModifiers()), f + " is final");
+                due(f.getType() == int.class, f + " is a constant of int");
             } else {
                 n++;
             }
